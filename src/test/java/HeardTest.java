@@ -64,6 +64,20 @@ public final class HeardTest {
         s.heard(0);
         s.heard(1);
         D.row("no breath", new long[] {s.breaths(), s.shorter()}, 0, -1);
+        s = Due.page(10, 2, 9, 9, 9);
+        s.put(0, 1);
+        s.put(1, 1);
+        s.heard(0);
+        // Of 1 to 8 all are stuck at the first that is left.
+        D.due("without any", s.shorter(), 0);
+        s = Due.page(10, 2, 1, 9);
+        s.put(0, 1);
+        // Of 30: without the first 8 and 22; without the other all 30.
+        D.due("all alike is worst", s.shorter(), 0);
+        s = Due.page(10, 2, 9, 1);
+        s.put(0, 1);
+        // The same, the other way round: all 30, and 8 and 22.
+        D.due("all alike is worst, at first", s.shorter(), 1);
         s = Due.page(10, 2, 2, 9);
         s.heard(1);
         // Of 2 to 10: without the first 2 to 8 are stuck, 9 and 10 not; without the other none is.
@@ -77,6 +91,8 @@ public final class HeardTest {
         D.row("one alone can", new long[] {s.bid(1, 20, 3, 20, 20, 0), s.bid(1, 20, 3, 20, 20, 1)}, 4, 600);
         D.row("the other alone can", new long[] {s.bid(1, 3, 20, 20, 20, 0), s.bid(1, 3, 20, 20, 20, 1)}, 4, 6);
         D.row("one bids above the other's purse", new long[] {s.bid(0, 4, 2, 10, 10, 0), s.bid(0, 4, 2, 10, 10, 1)}, 3, 200);
+        D.row("worth nothing", new long[] {s.bid(0, 2, 2, 0, 0, 0), s.bid(0, 2, 2, 0, 1, 0), s.bid(0, 2, 2, 1, 0, 0)},
+            5, 5, 5);
         D.row("empty purses", new long[] {s.bid(0, 0, 0, 9, 9, 0), s.bid(0, 0, 0, 9, 9, 1)}, 1, 0);
         s.week(1);
         D.row("what it costs now", new long[] {s.bid(2, 4, 3, 20, 20, 0), s.bid(2, 4, 3, 20, 20, 1)}, 4, 400);

@@ -66,6 +66,7 @@ public final class KeptTest {
         D.row("undo from an image", new long[] {s.count(7), s.undo(), s.count(5), s.undo(), s.of(0, 1)}, 2, 44, 0, 50, -1);
         s.week(1);
         s.week(1);
+        s.image(1);
         s.from(0);
         D.row("again", new long[] {s.undo(), s.undo(), s.undo()}, 44, 50, -3);
     }

@@ -124,6 +124,10 @@ public final class PageTest {
         fault("page 1 2", 8);
         fault("pag", 0);
         fault("pages 1 2;", 0);
+        fault("pagez 1 2;", 0);
+        fault("wage 1 2;", 0);
+        fault("page 1 2; bark 0 1;", 10);
+        fault("page 1 2; lord 1;", 10);
         fault("Page 1 2;", 0);
         fault(";", 0);
         fault("word 1;", 0);
@@ -190,6 +194,9 @@ public final class PageTest {
         D.due("read() again", s.read(), 6);
         D.due("a page alone", Due.read(s, "page 30 1;"), 1);
         D.row("no pieces", new long[] {s.count(0), s.count(2), s.count(3)}, 0, 30, 1);
+        D.due("nines", Due.read(s, "page 9 9;word 9;word 9;mark 1 5;"), 4);
+        D.row("nines told", new long[] {s.count(2), s.count(3), s.of(1, 0), s.of(1, 1)}, 9, 9, 9, 5);
+        Due.type(s, "page 30 1;");
         s.week(1);
         D.due("a page alone, again", s.read(), 1);
         D.due("told by these alone: none may be undone", s.undo(), -3);

@@ -12,6 +12,8 @@ public final class ReadTest {
         order();
         orderRefused();
         changesNothing();
+        fullPage();
+        askedAgain();
         D.end();
     }
 
@@ -55,6 +57,9 @@ public final class ReadTest {
             s.word(1);
         }
         D.row("one sentence", sentencesRow(s), 1, 0, 7, 0);
+        SoldStops one = Due.page(9, 2, 1);
+        one.put(0, 1);
+        D.row("a sentence of one", sentencesRow(one), 1, 1, 1, 0);
         s.put(0, 1);
         s.put(2, 2);
         s.put(4, 3);
@@ -169,5 +174,39 @@ public final class ReadTest {
         s.costs(0);
         s.gives(0, 0);
         D.due("digest() behind questions", s.digest(), before);
+    }
+
+    private static void fullPage() {
+        SoldStops s = Due.page(30, 2, 9, 9, 9, 9, 9, 9, 9, 9, 9, 9, 9, 9);
+        D.row("full: stuck, sentences", new long[] {s.stuck(), s.sentences(0), s.sentences(2), s.readOut()}, 3, 1, 12, 3);
+        D.row("full: reach", new long[] {s.reach(0), s.reach(5), s.reach(6), s.reach(999)}, 3, 4, 6, 12);
+        // 78 more than 30: a stop gives 27 for 6, a dash 6 for 3.
+        D.row("full: cheapest", cheapestRow(s, 30, 0), 18, -1, -1, 1, -1, -1, 1, -1, -1, 1, -1, -1, -1);
+        for (int i = 0; i < 12; i++) {
+            s.put(i, 1);
+        }
+        D.row("full of stops", new long[] {s.stuck(), s.sentences(0), s.sentences(1), s.reach(0), s.readOut(),
+            s.of(11, 2)}, -1, 12, 1, 12, 12, 1);
+        D.row("full: nothing to buy", cheapestRow(s, 9, 1), 0, -1, -1, -1, -1, -1, -1, -1, -1, -1, -1, -1, -1);
+        D.due("full: too long", s.cheapest(8, 0, -1), -5);
+    }
+
+    private static void askedAgain() {
+        SoldStops s = Due.page(10, 2, 4, 5, 6, 3, 2);
+        s.cheapest(10, 1, -1);
+        s.reach(999);
+        s.order(-1);
+        s.page(10, 2);
+        s.word(4);
+        s.word(5);
+        D.row("cheapest again", cheapestRow(s, 10, 0), 0, -1, -1);
+        D.row("cheapest with an end again", cheapestRow(s, 10, 1), 6, -1, 1);
+        D.row("too little breath", cheapestRow(s, 3, 0), -5, -5, -5);
+        D.row("reach again", new long[] {s.reach(0), s.reach(999)}, 2, 2);
+        s.breath(4);
+        D.row("reach with less", new long[] {s.reach(0), s.reach(999)}, 1, 1);
+        D.row("order with less", orderRow(s), 1, 0, 1);
+        s.breath(5);
+        D.row("order with a little more", orderRow(s), 1, 0, 1);
     }
 }
