@@ -1,5 +1,7 @@
 /** Counts the answers that are as due, tells those that are not. */
 final class Due {
+    static final String PAGE_OF_12 = "page 9 2;" + "word 1;".repeat(12) + "mark 0 0;mark 11 5;";
+
     private final String name;
     private int passed;
     private int failed;
@@ -38,6 +40,25 @@ final class Due {
         for (int length : lengths) {
             s.word(length);
         }
+        return s;
+    }
+
+    /** All that can be full is full: pieces, marks, the purse, what was heard, may be undone, the text, the images. */
+    static SoldStops full() {
+        SoldStops s = page(30, 2, 1, 2, 3, 4, 5, 6, 7, 8, 9, 1, 2, 3);
+        for (int i = 0; i < 12; i++) {
+            s.put(i, 1);
+        }
+        for (int i = 0; i < 6; i++) {
+            s.heard(SoldStops.NONE);
+        }
+        s.image(0);
+        for (int i = 0; i < 9; i++) {
+            s.week(1);
+        }
+        s.purse(999);
+        s.image(1);
+        type(s, PAGE_OF_12 + " ".repeat(150 - PAGE_OF_12.length()));
         return s;
     }
 
