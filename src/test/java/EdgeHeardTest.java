@@ -22,6 +22,7 @@ public final class EdgeHeardTest {
         shorterTheLast();
         shorterWithItsMark();
         shorterOfTheseBreaths();
+        shorterOfTheLeastAndTheGreatest();
         shorterAsTheTextIs();
         shorterThoseWhoReadAll();
         bidBounds();
@@ -252,6 +253,21 @@ public final class EdgeHeardTest {
         D.due("BREATH is not of them", s.shorter(), 0);
     }
 
+    /** BREATHS 1 and 30 count as all others do. */
+    private static void shorterOfTheLeastAndTheGreatest() {
+        SoldStops s = Due.page(9, 1, 1, 3);
+        s.put(0, 1);
+        s.heard(1);
+        s.word(2);
+        // Without the second 1 is stuck, 2 not; without another both are stuck at once.
+        D.row("of 1 and 2", new long[] {s.breaths(), s.shorter()}, bits(1, 2), 1);
+        s = Due.page(9, 1, 9, 9, 9, 2);
+        s.heard(-1);
+        s.word(3);
+        // Without the one of 2 there are 30 left, without another fewer.
+        D.row("of 29 and 30", new long[] {s.breaths(), s.shorter()}, bits(29, 30), 3);
+    }
+
     /** "in the text as it is now": not as it was when HEARD. */
     private static void shorterAsTheTextIs() {
         SoldStops s = Due.page(9, 1, 9);
@@ -324,6 +340,10 @@ public final class EdgeHeardTest {
         bids(s, new int[] {0, 0, 0, 20, 20}, 1, 0);
         bids(s, new int[] {0, 20, 0, 20, 20}, 1, 200);
         bids(s, new int[] {0, 0, 20, 20, 20}, 1, 2);
+        s.price(1);
+        // Who would pay 1 for nothing would have more by 0.
+        bids(s, new int[] {0, 1, 0, 0, 0}, 1, 0);
+        bids(s, new int[] {0, 0, 1, 0, 0}, 1, 0);
     }
 
     /** "BIDS below what it COSTS do not count (nobody has it for less)": as much counts. */

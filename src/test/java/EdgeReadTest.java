@@ -254,6 +254,8 @@ public final class EdgeReadTest {
     private static void cheapestFewest() {
         D.row("one dash", cheapestRow(Due.page(12, 1, 9, 6, 3), 12, 0), 2, 4, -1, -1);
         D.row("one dash, later", cheapestRow(Due.page(12, 1, 6, 6, 6), 12, 0), 2, -1, 4, -1);
+        // A colon for 8 gives 12; two dashes for 8 would, too, and a stop for 9 more.
+        D.row("one colon", cheapestRow(Due.page(30, 3, 9, 9, 9, 7, 7), 30, 0), 8, -1, -1, 5, -1, -1);
     }
 
     /** "then the first row (by PIECES: none ..": the mark comes as late as can be. */

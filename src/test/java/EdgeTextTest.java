@@ -151,6 +151,10 @@ public final class EdgeTextTest {
         fault(P + "marks 0 1;", 9);
         fault(P + "mar", 9);
         fault(P + "z", 9);
+        fault("qage 9 2;", 0);
+        fault("pagf 9 2;", 0);
+        fault(P + "vord 1;", 9);
+        fault(P + "bark 0 1;", 9);
         fault(P + "word a;", 14);
     }
 
